@@ -8,6 +8,7 @@ public final class GuardsAndDaysTest {
         driftByRate();
         driftByOneAtLeast();
         driftToAnotherMiddle();
+        driftRoundsDown();
         lastDay();
         anewByAge();
         lowestRowFirst();
@@ -122,6 +123,18 @@ public final class GuardsAndDaysTest {
         Due.is("guard 0: 600 * 20 / 1000", x.guard(0, 0, 0), 112);
         Due.is("guard 1: 200 * 20 / 1000", x.guard(0, 1, 0), 504);
         Due.is("guard 2: 200 * 20 / 1000", x.guard(0, 2, 0), 896);
+    }
+
+    private static void driftRoundsDown() {
+        DriftingLevels x = new DriftingLevels();
+        x.rate(0, 6);
+        x.fail(0, 0, 167);
+        x.fail(0, 2, 833);
+        x.mend(0, 0);
+        x.mend(0, 2);
+        x.days(1);
+        Due.is("333 * 6 / 1000 = 1", x.guard(0, 0, 0), 168);
+        Due.is("333 * 6 / 1000 = 1", x.guard(0, 2, 0), 832);
     }
 
     private static void lastDay() {

@@ -32,6 +32,9 @@ public final class WhatThereIsTest {
         x.write(0, 2, 2);
         Due.is("days", x.cell(0, 2, 7), 0);
         Due.is("level", x.cell(0, 2, 0), 2);
+        Due.is("by 300 and 700", x.cell(0, 2, 4), 2);
+        x.write(0, 3, 1);
+        Due.is("by 300 and 700", x.cell(0, 3, 4), 1);
         Due.is("times written", x.cell(0, 2, 5), 2);
         Due.is("from the nearer, the upper one", x.cell(0, 2, 6), x.cell(0, 2, 1) - x.row(0, 5));
         Due.invalid("cell(-1, 0, 0)", x.cell(-1, 0, 0));

@@ -2,18 +2,23 @@
 public final class WhatWouldBeTest {
     public static void main(String[] args) {
         wrongIn();
+        wrongInWithin300();
         wrongInWithAge();
         rightFor();
         safeAge();
         safeAgeNone();
+        safeAgeOfOne();
+        safeAgeOnTheLastDay();
         worst();
         mean();
+        meanOfPowersOfTwo();
         share();
         countNumbers();
         countSets();
         countOutside();
         undo();
         undoRestoresAll();
+        undoOfEachChange();
         Due.end();
     }
 
@@ -35,6 +40,19 @@ public final class WhatWouldBeTest {
         Due.is("one that is wrong now", WritingTest.withFourWrong().wrongIn(0), 0);
         Due.invalid("wrongIn(-1)", x.wrongIn(-1));
         Due.invalid("wrongIn(6)", x.wrongIn(6));
+    }
+
+    /** By 1 a day, the cell of 107 comes to the lower threshold of 407 in 300 days, alone. */
+    private static void wrongInWithin300() {
+        DriftingLevels x = new DriftingLevels();
+        x.rate(0, 1);
+        x.fail(0, 0, 314);
+        Due.is("407 in 300 days", x.wrongIn(0), 300);
+        x.mend(0, 0);
+        x.fail(0, 0, 316);
+        Due.is("408 in 301 days", x.wrongIn(0), DriftingLevels.NOT_FOUND);
+        Due.is("wrongIn(5)", x.wrongIn(5), 139);
+        Due.is("rightFor(5)", x.rightFor(5), 139);
     }
 
     private static void wrongInWithAge() {
@@ -105,6 +123,35 @@ public final class WhatWouldBeTest {
         Due.is("it records nothing", x.count(15), 2);
     }
 
+    /** New cells hold 117 at most after a day, and some 124 after two. */
+    private static void safeAgeOfOne() {
+        DriftingLevels x = new DriftingLevels();
+        x.fail(0, 0, 0);
+        x.fail(0, 1, 236);
+        Due.is("lower threshold", x.row(0, 4), 118);
+        Due.is("safeAge()", x.safeAge(), 1);
+        x.set(2, 99);
+        Due.is("whatever setting 2 is", x.safeAge(), 1);
+    }
+
+    /** By 1 a day, the cell of 107 alone comes to 167 in 60 days, and once written anew that of 108 to 168. */
+    private static void safeAgeOnTheLastDay() {
+        DriftingLevels x = new DriftingLevels();
+        x.rate(0, 1);
+        x.fail(0, 0, 0);
+        x.fail(0, 1, 334);
+        Due.is("one is lost on the day 60", x.safeAge(), 59);
+        DriftingLevels y = new DriftingLevels();
+        y.rate(0, 1);
+        y.fail(0, 0, 0);
+        y.fail(0, 1, 336);
+        Due.is("none in 60 days", y.safeAge(), 60);
+        y.days(59);
+        Due.is("one would be lost on the day 61", y.safeAge(), 60);
+        y.days(1);
+        Due.is("one is lost on the first day", y.safeAge(), DriftingLevels.NOT_FOUND);
+    }
+
     private static void worst() {
         DriftingLevels x = new DriftingLevels();
         for (int rank = 0; rank < 6; rank++) {
@@ -137,6 +184,22 @@ public final class WhatWouldBeTest {
         x.days(99);
         Due.is("a high mean", x.mean(), Float.floatToIntBits(sumOfDistances(x) / 48f));
         Due.is("above 256", Float.intBitsToFloat(x.mean()) > 256f ? 1 : 0, 1);
+    }
+
+    /** All cells come to the middle, which then goes away from their aim. */
+    private static void meanOfPowersOfTwo() {
+        DriftingLevels x = new DriftingLevels();
+        for (int row = 0; row < 6; row++) {
+            x.fill(row, 3280);
+        }
+        x.days(10);
+        Due.is("none", x.mean(), 0);
+        int[] far = {1, 2, 3, 4, 8, 16, 32, 64, 128, 200};
+        for (int distance : far) {
+            x.set(0, 500 + distance);
+            x.days(99);
+            Due.is("mean of " + distance, x.mean(), Float.floatToIntBits(distance));
+        }
     }
 
     private static float sumOfDistances(DriftingLevels x) {
@@ -204,6 +267,21 @@ public final class WhatWouldBeTest {
         x.fail(4, 1, 180);
         Due.is("count(1)", x.count(1), 12);
         Due.is("count(2)", x.count(2), 17);
+        DriftingLevels y = new DriftingLevels();
+        y.write(3, 1, 1);
+        y.fail(3, 0, 0);
+        y.fail(3, 1, 220);
+        // Of the row 3 all are below 110 but the cell 1, of the level 1.
+        Due.is("count(2) of none", y.count(2), 0);
+        y.mend(3, 1);
+        y.fail(3, 1, 100);
+        y.mend(3, 0);
+        y.fail(3, 0, 60);
+        y.days(1);
+        Due.is("count(2) of the row 3", y.count(2), 8);
+        // By 80 and 496 all are told wrong: the cell 1, with 501, is told 2.
+        Due.is("count(1) of the row 3", y.count(1), 8);
+        onlyOneWrong();
         Due.is("count(3)", x.count(3), 63);
         Due.is("count(4)", x.count(4), 0);
         Due.is("count(5)", x.count(5), 0);
@@ -213,6 +291,17 @@ public final class WhatWouldBeTest {
         Due.is("count(3)", x.count(3), 1 + 16 + 32);
         Due.is("count(4)", x.count(4), 2 + 8);
         Due.is("count(5)", x.count(5), 4);
+    }
+
+    /** The lower threshold 107 of the row 0 is reached by one of its cells. */
+    private static void onlyOneWrong() {
+        DriftingLevels x = new DriftingLevels();
+        x.fail(0, 0, 0);
+        x.fail(0, 1, 214);
+        Due.is("count(1) of one cell", x.count(1), 1);
+        Due.is("count(2) of one cell", x.count(2), 1);
+        Due.is("wrongIn(0) of one cell", x.wrongIn(0), 0);
+        Due.is("anew(0) of one cell", x.anew(0), 1);
     }
 
     private static void countOutside() {
@@ -266,6 +355,36 @@ public final class WhatWouldBeTest {
         x.clearText();
         x.undo();
         Due.is("the text is not restored", x.count(16), 0);
+    }
+
+    private static void undoOfEachChange() {
+        for (int which = 0; which < 10; which++) {
+            DriftingLevels x = WritingTest.withFourWrong();
+            x.anew(0);
+            x.days(2);
+            x.fill(5, 1234);
+            x.days(3);
+            Due.type(x, "a0;");
+            String before = PlainModel.picture(x);
+            Due.is("change " + which, change(x, which) >= 0 ? 1 : 0, 1);
+            Due.is("undo of change " + which, x.undo(), 3);
+            Due.is("as before change " + which, PlainModel.picture(x).equals(before) ? 1 : 0, 1);
+        }
+    }
+
+    private static int change(DriftingLevels x, int which) {
+        switch (which) {
+            case 0: return x.write(5, 3, 2);
+            case 1: return x.fill(5, 6560);
+            case 2: return x.anew(5);
+            case 3: return x.ask(5, 3);
+            case 4: return x.fail(5, 2, 7);
+            case 5: return x.mend(0, 1);
+            case 6: return x.rate(5, 9);
+            case 7: return x.days(9);
+            case 8: return x.set(1, 9);
+            default: return x.play();
+        }
     }
 
     private static void changeMuch(DriftingLevels x) {

@@ -114,6 +114,7 @@ public final class WritingTest {
         Due.is("age after fill", x.row(3, 9), 2);
         Due.is("guard after fill", x.guard(3, 0, 0), 115);
         Due.is("days after fill", x.cell(3, 4, 7), 0);
+        Due.is("fill(5, 1)", x.fill(5, 1), 0);
         Due.invalid("fill(-1, 0)", x.fill(-1, 0));
         Due.invalid("fill(6, 0)", x.fill(6, 0));
         Due.invalid("fill(0, -1)", x.fill(0, -1));
