@@ -1,6 +1,9 @@
+import java.io.IOException;
 import java.lang.reflect.Field;
 import java.lang.reflect.Method;
 import java.lang.reflect.Modifier;
+import java.nio.file.Files;
+import java.nio.file.Path;
 import java.util.Set;
 import java.util.TreeSet;
 
@@ -10,7 +13,15 @@ public final class FaceTest {
         "days 1", "set 2", "cell 3", "guard 3", "row 2", "table 2", "wrongIn 1", "rightFor 1", "safeAge 0", "worst 1",
         "mean 0", "share 0", "count 1", "undo 0", "type 1", "clearText 0", "fault 1", "play 0"};
 
-    public static void main(String[] args) {
+    /** Each heading, and the methods that stand behind it, ahead of the next one. */
+    static final String[][] HEADINGS = {
+        {"writing", "write", "fill", "anew", "ask"},
+        {"guards, days", "fail", "mend", "rate", "days", "set"},
+        {"what there is", "cell", "guard", "row", "table"},
+        {"what would be", "wrongIn", "rightFor", "safeAge", "worst", "mean", "share", "count", "undo"},
+        {"texts", "type", "clearText", "fault", "play"}};
+
+    public static void main(String[] args) throws IOException {
         Due.is("INVALID_ARGUMENT", DriftingLevels.INVALID_ARGUMENT, -1000001);
         Due.is("NOT_POSSIBLE", DriftingLevels.NOT_POSSIBLE, -1000002);
         Due.is("LIMIT_REACHED", DriftingLevels.LIMIT_REACHED, -1000003);
@@ -20,6 +31,7 @@ public final class FaceTest {
         Due.is("constructors", face.getDeclaredConstructors().length, 1);
         Due.is("parameters of it", face.getDeclaredConstructors()[0].getParameterCount(), 0);
         methods(face);
+        headings(Files.readString(Path.of(System.getProperty("source"))));
         fields(face);
         for (Class<?> inside : face.getDeclaredClasses()) {
             Due.is(inside + " is static", Modifier.isStatic(inside.getModifiers()) ? 1 : 0, 1);
@@ -42,6 +54,17 @@ public final class FaceTest {
             }
         }
         Due.is("methods of the face", found.equals(new TreeSet<>(Set.of(METHODS))) ? 1 : 0, 1);
+    }
+
+    private static void headings(String source) {
+        int at = 0;
+        for (String[] heading : HEADINGS) {
+            for (int i = 0; i < heading.length; i++) {
+                int next = source.indexOf(i == 0 ? "\n    // ---- " + heading[0] + "\n" : "    public int " + heading[i] + "(");
+                Due.is(heading[i] + " stands behind what is ahead of it", next > at ? 1 : 0, 1);
+                at = next;
+            }
+        }
     }
 
     private static void fields(Class<?> face) {

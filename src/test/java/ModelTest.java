@@ -97,27 +97,8 @@ public final class ModelTest {
     }
 
     private void both(String name, int... a) {
-        StringBuilder call = new StringBuilder(name).append('(');
-        for (int one : a) {
-            call.append(one).append(' ');
-        }
-        int got = onClass(name, a);
-        same(call.append(')').toString(), got, name.equals("undo") ? model.undo() : model.change(name, a));
-    }
-
-    private int onClass(String name, int[] a) {
-        switch (name) {
-            case "write": return x.write(a[0], a[1], a[2]);
-            case "fill": return x.fill(a[0], a[1]);
-            case "anew": return x.anew(a[0]);
-            case "ask": return x.ask(a[0], a[1]);
-            case "fail": return x.fail(a[0], a[1], a[2]);
-            case "mend": return x.mend(a[0], a[1]);
-            case "rate": return x.rate(a[0], a[1]);
-            case "days": return x.days(a[0]);
-            case "set": return x.set(a[0], a[1]);
-            default: return x.undo();
-        }
+        int got = Calls.answer(x, name, a);
+        same(Calls.told(name, a), got, name.equals("undo") ? model.undo() : model.change(name, a));
     }
 
     private void look() {

@@ -554,30 +554,4 @@ final class PlainModel {
         world = after;
         return done[0];
     }
-
-    /** What an object shows of its state, but for its history and its text, in some 200 calls. */
-    static String picture(DriftingLevels x) {
-        StringBuilder picture = new StringBuilder();
-        for (int row = 0; row < 6; row++) {
-            for (int what = 0; what < 14; what++) {
-                picture.append(x.row(row, what)).append(' ');
-            }
-            for (int cell = 0; cell < 8; cell++) {
-                picture.append(x.cell(row, cell, 1)).append(' ');
-            }
-            for (int guard = 0; guard < 3; guard++) {
-                picture.append(x.guard(row, guard, 0)).append(' ');
-            }
-            picture.append(x.cell(row, 3, 5)).append(' ').append(x.cell(row, 3, 7)).append(' ');
-        }
-        for (int pair = 0; pair < 9; pair++) {
-            picture.append(x.table(pair / 3, pair % 3)).append(' ');
-        }
-        for (int what = 0; what < 23; what++) {
-            if (what < 15 || what > 19) {
-                picture.append(x.count(what)).append(' ');
-            }
-        }
-        return picture.toString();
-    }
 }

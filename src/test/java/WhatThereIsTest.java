@@ -16,7 +16,7 @@ public final class WhatThereIsTest {
     }
 
     private static void cell() {
-        DriftingLevels x = WritingTest.withFourWrong();
+        DriftingLevels x = Sample.withFourWrong();
         x.set(1, 201);
         // The own thresholds, 100 and 550, are not right now, so that those of the row 1 tell.
         Due.is("level", x.cell(0, 2, 0), 0);
@@ -183,7 +183,7 @@ public final class WhatThereIsTest {
     }
 
     private static void rowCounts() {
-        DriftingLevels x = WritingTest.withFourWrong();
+        DriftingLevels x = Sample.withFourWrong();
         Due.is("told wrong", x.row(0, 6), 4);
         Due.is("by 300 and 700", x.row(0, 7), 0);
         Due.is("word told", x.row(0, 10), 984);
@@ -201,7 +201,7 @@ public final class WhatThereIsTest {
     }
 
     private static void table() {
-        DriftingLevels x = WritingTest.withFourWrong();
+        DriftingLevels x = Sample.withFourWrong();
         x.ask(0, 0);
         x.ask(0, 1);
         x.ask(0, 1);

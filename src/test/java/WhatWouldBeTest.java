@@ -37,7 +37,7 @@ public final class WhatWouldBeTest {
         DriftingLevels y = new DriftingLevels();
         y.rate(0, 1);
         Due.is("only 300 days are looked at", y.wrongIn(0), DriftingLevels.NOT_FOUND);
-        Due.is("one that is wrong now", WritingTest.withFourWrong().wrongIn(0), 0);
+        Due.is("one that is wrong now", Sample.withFourWrong().wrongIn(0), 0);
         Due.invalid("wrongIn(-1)", x.wrongIn(-1));
         Due.invalid("wrongIn(6)", x.wrongIn(6));
     }
@@ -118,7 +118,7 @@ public final class WhatWouldBeTest {
     }
 
     private static void safeAgeNone() {
-        DriftingLevels x = WritingTest.withFourWrong();
+        DriftingLevels x = Sample.withFourWrong();
         Due.is("wrong with each age", x.safeAge(), DriftingLevels.NOT_FOUND);
         Due.is("it records nothing", x.count(15), 2);
     }
@@ -211,7 +211,7 @@ public final class WhatWouldBeTest {
     }
 
     private static void share() {
-        DriftingLevels x = WritingTest.withFourWrong();
+        DriftingLevels x = Sample.withFourWrong();
         Due.is("nothing was asked", x.share(), DriftingLevels.NOT_FOUND);
         x.ask(0, 1);
         Due.is("none right", x.share(), 0);
@@ -234,7 +234,7 @@ public final class WhatWouldBeTest {
     }
 
     private static void countNumbers() {
-        DriftingLevels x = WritingTest.withFourWrong();
+        DriftingLevels x = Sample.withFourWrong();
         x.ask(0, 0);
         x.ask(0, 1);
         x.ask(0, 1);
@@ -262,7 +262,7 @@ public final class WhatWouldBeTest {
     }
 
     private static void countSets() {
-        DriftingLevels x = WritingTest.withFourWrong();
+        DriftingLevels x = Sample.withFourWrong();
         x.fail(4, 0, 0);
         x.fail(4, 1, 180);
         Due.is("count(1)", x.count(1), 12);
@@ -339,37 +339,44 @@ public final class WhatWouldBeTest {
     }
 
     private static void undoRestoresAll() {
-        DriftingLevels x = new DriftingLevels();
-        x.fail(0, 0, 0);
-        x.fail(0, 1, 200);
-        x.ask(0, 1);
-        x.set(0, 400);
-        x.set(1, 30);
-        x.set(2, 2);
-        x.rate(0, 100);
-        String before = PlainModel.picture(x);
-        changeMuch(x);
+        DriftingLevels x = manyChanged();
+        Due.type(x, "w3,3,2;f1,1,7;m0,0;r4,44;d3;a5;d9;w0,0,1;a0;d1;");
+        Due.is("play()", x.play(), 10);
         Due.is("undo of play", x.undo(), 3);
-        Due.is("as it was", PlainModel.picture(x).equals(before) ? 1 : 0, 1);
+        Due.same("what was, and what is", Picture.of(x), Picture.of(manyChanged()));
         Due.is("the text stays", x.count(16), 47);
         x.clearText();
         x.undo();
         Due.is("the text is not restored", x.count(16), 0);
     }
 
+    private static DriftingLevels manyChanged() {
+        DriftingLevels x = Sample.withFourWrong();
+        x.ask(0, 1);
+        x.set(0, 400);
+        x.set(1, 30);
+        x.set(2, 2);
+        x.rate(0, 100);
+        return x;
+    }
+
     private static void undoOfEachChange() {
         for (int which = 0; which < 10; which++) {
-            DriftingLevels x = WritingTest.withFourWrong();
-            x.anew(0);
-            x.days(2);
-            x.fill(5, 1234);
-            x.days(3);
-            Due.type(x, "a0;");
-            String before = PlainModel.picture(x);
-            Due.is("change " + which, change(x, which) >= 0 ? 1 : 0, 1);
+            DriftingLevels x = aheadOfAChange();
+            Due.is("errors of change " + which, change(x, which) < 0 ? 1 : 0, 0);
             Due.is("undo of change " + which, x.undo(), 3);
-            Due.is("as before change " + which, PlainModel.picture(x).equals(before) ? 1 : 0, 1);
+            Due.same("what was ahead of, and is after change " + which, Picture.of(x), Picture.of(aheadOfAChange()));
         }
+    }
+
+    private static DriftingLevels aheadOfAChange() {
+        DriftingLevels x = Sample.withFourWrong();
+        x.anew(0);
+        x.days(2);
+        x.fill(5, 1234);
+        x.days(3);
+        Due.type(x, "a0;");
+        return x;
     }
 
     private static int change(DriftingLevels x, int which) {
@@ -385,10 +392,5 @@ public final class WhatWouldBeTest {
             case 8: return x.set(1, 9);
             default: return x.play();
         }
-    }
-
-    private static void changeMuch(DriftingLevels x) {
-        Due.type(x, "w3,3,2;f1,1,7;m0,0;r4,44;d3;a5;d9;w0,0,1;a0;d1;");
-        Due.is("play()", x.play(), 10);
     }
 }

@@ -14,14 +14,6 @@ public final class WritingTest {
         Due.end();
     }
 
-    /** The guards 0 and 1 of the row 0 fail at 0 and 200, so that 100 and 550 are its thresholds. */
-    static DriftingLevels withFourWrong() {
-        DriftingLevels x = new DriftingLevels();
-        x.fail(0, 0, 0);
-        x.fail(0, 1, 200);
-        return x;
-    }
-
     private static void newObject() {
         DriftingLevels x = new DriftingLevels();
         for (int row = 0; row < 6; row++) {
@@ -122,7 +114,7 @@ public final class WritingTest {
     }
 
     private static void fillTellsByTheThresholdsOfBefore() {
-        DriftingLevels x = withFourWrong();
+        DriftingLevels x = Sample.withFourWrong();
         Due.is("told, not the levels", x.fill(0, 0), 3 + 9 + 243 + 729);
         Due.is("nothing is lost by fill", x.row(0, 12), 0);
     }
@@ -150,7 +142,7 @@ public final class WritingTest {
     }
 
     private static void anewLosesLevels() {
-        DriftingLevels x = withFourWrong();
+        DriftingLevels x = Sample.withFourWrong();
         Due.is("anew(0)", x.anew(0), 4);
         Due.is("levels become what was told", x.row(0, 11), 984);
         Due.is("row(0, 12)", x.row(0, 12), 4);
@@ -166,7 +158,7 @@ public final class WritingTest {
     }
 
     private static void anewLeavesFailedGuards() {
-        DriftingLevels x = withFourWrong();
+        DriftingLevels x = Sample.withFourWrong();
         x.days(5);
         x.anew(0);
         Due.is("failed guard 0", x.guard(0, 0, 0), 0);
@@ -176,7 +168,7 @@ public final class WritingTest {
     }
 
     private static void ask() {
-        DriftingLevels x = withFourWrong();
+        DriftingLevels x = Sample.withFourWrong();
         Due.is("ask(0, 0)", x.ask(0, 0), 0);
         Due.is("ask(0, 1)", x.ask(0, 1), 1);
         Due.is("ask(0, 1)", x.ask(0, 1), 1);
