@@ -10,6 +10,7 @@ final class DriftEdges {
         oneDayMore();
         ageIsReached();
         ageIsPassed();
+        ageIsOfTheGuards();
         noAge();
         writtenAfterTheDrift();
         lowestRowFirst();
@@ -67,6 +68,8 @@ final class DriftEdges {
         Due.is("699 * 200 / 1000", drifted(300, 200, 999, 1), 860);
         Due.is("9 * 200 / 1000", drifted(500, 200, 509, 1), 508);
         Due.is("10 * 200 / 1000", drifted(500, 200, 510, 1), 508);
+        Due.is("333 * 6 / 1000 up", drifted(500, 6, 167, 1), 168);
+        Due.is("333 * 6 / 1000 down", drifted(500, 6, 833, 1), 832);
         DriftingLevels x = new DriftingLevels();
         x.rate(0, 100);
         x.days(1);
@@ -139,6 +142,29 @@ final class DriftEdges {
         x.days(1);
         Due.is("that of 5", x.row(2, 13), 2);
         Due.is("and no other", x.count(9), 7);
+    }
+
+    /** No change but anew() makes a row younger at once. */
+    private static void ageIsOfTheGuards() {
+        Doc.quote("Drift", "(the days since its guards were written)");
+        DriftingLevels x = new DriftingLevels();
+        x.days(7);
+        x.write(4, 0, 1);
+        x.fill(4, 6560);
+        x.ask(4, 0);
+        x.rate(4, 30);
+        x.set(2, 7);
+        x.fail(4, 0, 9);
+        x.fail(4, 1, 9);
+        x.fail(4, 2, 9);
+        Due.is("age", x.row(4, 9), 7);
+        x.mend(4, 1);
+        Due.is("age", x.row(4, 9), 7);
+        x.anew(4);
+        Due.is("age", x.row(4, 9), 0);
+        Due.is("age of another", x.row(3, 9), 7);
+        x.undo();
+        Due.is("age", x.row(4, 9), 7);
     }
 
     private static void noAge() {

@@ -43,6 +43,8 @@ final class Sample {
     /** Nearly all that a state holds differs from what is at first; the history is full, the text has a fault. */
     static DriftingLevels used() {
         DriftingLevels x = withFourWrong();
+        x.write(5, 3, 2);
+        x.ask(5, 3);
         x.anew(0);
         x.ask(0, 1);
         x.days(7);
@@ -52,7 +54,7 @@ final class Sample {
         x.rate(3, 55);
         x.mend(0, 1);
         x.fail(4, 2, 9);
-        x.write(5, 3, 2);
+        x.write(5, 4, 2);
         Due.type(x, "a0;d3;x");
         return x;
     }

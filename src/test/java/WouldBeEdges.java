@@ -15,6 +15,7 @@ final class WouldBeEdges {
         safeAgeOfTheLastDay();
         safeAgeIsTheGreatest();
         safeAgeNone();
+        beyondTheLastDay();
         worst();
         worstOfEqual();
         mean();
@@ -232,6 +233,24 @@ final class WouldBeEdges {
         Due.is("none is lost now", x.row(0, 6), 0);
     }
 
+    /** The day 9999 is a limit of days() alone; by then all cells and guards have come to the middle. */
+    private static void beyondTheLastDay() {
+        DriftingLevels x = Sample.onDay(9999);
+        for (int row = 0; row < 6; row++) {
+            x.anew(row);
+            x.fill(row, 0);
+        }
+        Doc.quote("Promise 16", "if nothing else is done");
+        Due.is("apart until the day 10138", x.rightFor(0), 139);
+        x.rate(0, 1);
+        Sample.lower(x, 0, 118);
+        Doc.quote("Promise 15", "if nothing else is done");
+        // The cells of the row 0 were written three times; the highest holds 108.
+        Due.is("108 comes to 118", x.wrongIn(0), 10);
+        Doc.quote("Promise 17", "in the next 60 days");
+        Due.is("108 and what is written later", x.safeAge(), 7);
+    }
+
     private static void worst() {
         Doc.quote("Promise 18", "Returns the row at a rank by the cells that are told wrong: the most first",
             "Returns the row;");
@@ -294,6 +313,11 @@ final class WouldBeEdges {
             x.days(1);
         }
         Due.is("0", x.mean(), 0);
+        for (int far = 1; far <= 128; far = 2 * far) {
+            x.set(0, 500 + far);
+            x.days(99);
+            Due.is(far + " of each cell", x.mean(), Float.floatToIntBits(far));
+        }
     }
 
     private static void share() {
@@ -317,6 +341,12 @@ final class WouldBeEdges {
         Due.is("1 / 1", y.share(), Float.floatToIntBits(1f));
         y.ask(0, 0);
         Due.is("2 / 2", y.share(), Float.floatToIntBits(1f));
+        Sample.lower(y, 1, 90);
+        y.ask(1, 0);
+        for (int asked = 4; asked <= 32; asked++) {
+            y.ask(0, 0);
+            Due.is("all but one of " + asked, y.share(), Float.floatToIntBits((asked - 1f) / asked));
+        }
     }
 
     private static void shareOfNothing() {
